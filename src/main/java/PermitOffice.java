@@ -496,15 +496,13 @@ public final class PermitOffice {
         static final int TYPE_LINE = 3;
         static final int LORRY_LINE = 4;
 
-        /** What a NUMBER tells; those of a type stand in the order of its LINE. */
+        /** What a NUMBER tells; those between ENGINE and LAND are a type's COST, COUNT, STAY. */
         static final int HOW_MANY_LANDS = 0;
         static final int REISSUE = 1;
         static final int PLACES = 2;
         static final int ENGINE = 3;
-        static final int COST = 4;
-        static final int COUNT = 5;
-        static final int STAY = 6;
         static final int LAND = 7;
+        /** By what a NUMBER tells; how far a LAND goes is told by the text itself. */
         private static final int[] LEAST = {1, 1, 2, 1, 0, 0, 0};
         private static final int[] MOST = {8, 9, 9, 6, 99, 9, 99};
 

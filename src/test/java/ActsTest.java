@@ -38,6 +38,11 @@ public final class ActsTest {
         x.assign();
         Check.same("out", -2, x.ask(0, 10, 2));
         Check.same("by itself", 1, x.trip(3, 2));
+        Check.tell(x, "lands 8 1;border 0 1;border 1 2;border 2 3;border 3 4;border 4 5;border 5 6;"
+                + "lorry 0 1;lorry 6 1;");
+        Check.same("seven are too many", -1, x.ask(0, 6543210, 7));
+        Check.same("seven are too many back", -1, x.ask(1, 123456, 7));
+        Check.same("six of them", 0, x.ask(1, 123456, 6));
         // Digits that are not written count as land 0.
         Check.tell(x, "lands 3 1;border 1 2;border 2 0;lorry 1 1;lorry 2 1;");
         Check.same("21 of 3 is 1, 2, 0", 0, x.ask(0, 21, 3));
@@ -215,15 +220,15 @@ public final class ActsTest {
         Check.same("in", 3, x.ledger(0, 0));
         Check.same("free", 3, x.type(0, 7));
         Check.same("count stays", 9, x.type(0, 4));
-        // What was lost can't come back.
+        // What was lost can't come back, and days count from the day out.
         x.ask(0, 10, 2);
         x.assign();
         x.pass(5);
-        x.home(0);
+        Check.same("five days", 5, x.home(0));
         Check.same("lost", -1, x.handBack(0, 1));
         x.ask(0, 10, 2);
         x.assign();
-        x.home(0);
+        Check.same("no day", 0, x.home(0));
         Check.same("the ninth", 1, x.handBack(0, 1));
         // Several at once.
         x = Check.office("lands 2 1;border 0 1;type single 1 1 3 4 1;lorry 0 1;");

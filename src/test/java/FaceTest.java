@@ -18,7 +18,8 @@ public final class FaceTest {
 
     public static void main(String[] args) {
         Class<?> office = PermitOffice.class;
-        Check.yes("public and final", Modifier.isPublic(office.getModifiers()) && Modifier.isFinal(office.getModifiers()));
+        Check.yes("public", Modifier.isPublic(office.getModifiers()));
+        Check.yes("final", Modifier.isFinal(office.getModifiers()));
         TreeSet<String> found = new TreeSet<>();
         for (Method method : office.getDeclaredMethods()) {
             if (!Modifier.isPrivate(method.getModifiers())) {

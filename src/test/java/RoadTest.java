@@ -18,6 +18,12 @@ public final class RoadTest {
             Check.same("free(1, " + engine + ")", due[engine - 1], x.free(1, engine));
         }
         Check.same("free(2, 6)", 14, x.free(2, 6));
+        // What an earlier text told of more types does not count.
+        PermitOffice less = Check.office("lands 3 1;type multi 1 1 9 9 2;type multi 1 1 9 9 0 1 2;lorry 0 1;");
+        Check.tell(less, "lands 3 1;");
+        Check.tell(less, "lands 3 1;border 0 1;border 0 2;type multi 1 1 1 9 2;lorry 0 1;");
+        Check.same("of one type alone", 1, less.free(2, 6));
+        Check.same("by one type alone", -2, less.shortest(0, 1));
         Check.same("free(2, 1)", 0, x.free(2, 1));
         Check.same("free(0, 6)", 0, x.free(0, 6));
         for (int far : FAR) {
@@ -48,6 +54,13 @@ public final class RoadTest {
         Check.same("types do not join", -2, x.shortest(2, 0));
         Check.same("home need not be in it", 2, x.shortest(2, 2));
         Check.same("from an island", -2, x.shortest(3, 0));
+        // A type that is of no use behind one that is, and the other way round.
+        PermitOffice star = Check.office(map + "type multi 1 1 1 1 5;type multi 1 1 1 1 1 2 3;type multi 1 1 1 1 3 4;"
+                + "type multi 1 1 1 1 0;lorry 0 1;");
+        int[] due = {-1, 2, 3, 3, 2, -2};
+        for (int land = 0; land < 6; land++) {
+            Check.same("shortest of several to " + land, due[land], star.shortest(0, land));
+        }
         for (int lorry = 0; lorry < 4; lorry++) {
             Check.same("home itself", -1, x.shortest(lorry, x.lorry(lorry, 0)));
         }

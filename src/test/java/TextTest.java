@@ -8,6 +8,7 @@ public final class TextTest {
         ending();
         rightTexts();
         textsAsAtFirst();
+        textsBeginAnew();
         noTokens();
         tokensThatCannotCome();
         endsTooEarly();
@@ -130,6 +131,70 @@ public final class TextTest {
         }
     }
 
+    /** Leaves something of everything behind: TRIPS, late ones, pieces everywhere, acts. */
+    private static void live(PermitOffice x) {
+        for (int k = 0; k < 2; k++) {
+            x.ask(0, 210, 3);
+            x.ask(1, 10, 2);
+            x.assign();
+            x.pass(3 + k);
+            x.home(0);
+            x.home(1);
+            x.handBack(0, 1);
+        }
+        x.ask(1, 10, 2);
+        x.ask(2, 10, 2);
+        x.assign();
+        x.ask(0, 10, 2);
+        x.stop(0, 3);
+        x.stop(1, 3);
+    }
+
+    private static String allOf(PermitOffice x) {
+        StringBuilder all = new StringBuilder();
+        for (int k = 0; k <= 10; k++) {
+            all.append(x.now(k)).append(' ').append(x.plan(10 + k)).append(' ');
+        }
+        for (int one = 0; one < 7; one++) {
+            for (int what = 0; what < 16; what++) {
+                all.append(x.type(one, what)).append(' ').append(x.ledger(one, what)).append(' ');
+                all.append(x.trip(one, what)).append(' ');
+                all.append(Check.lorryThrows(x, one, what) ? -9 : x.lorry(one, what)).append(' ');
+            }
+        }
+        return all.toString();
+    }
+
+    private static void textsBeginAnew() {
+        String wide = "lands 4 1;border 0 1;border 1 2;border 2 3;border 3 0;type single 1 0 4 3 1 2;"
+                + "type shared 2 1 1 1 3 1;type multi 1 5 1 3 1 2;lorry 0 2;lorry 0 1;lorry 0 1;";
+        String small = "lands 3 9;border 1 2;border 0 1;type single 1 1 4 9 1 2;lorry 0 2;lorry 0 2;lorry 0 1;";
+        PermitOffice x = new PermitOffice();
+        for (int k = 0; k < 6; k++) {
+            String text = k % 3 == 1 ? small : wide;
+            Check.tell(x, text);
+            PermitOffice fresh = Check.office(text);
+            Check.yes("all anew " + k, allOf(x).equals(allOf(fresh)));
+            for (int lorry = 0; lorry < 3; lorry++) {
+                x.ask(lorry, 10, 2);
+                fresh.ask(lorry, 10, 2);
+            }
+            Check.yes("first trips " + k, allOf(x).equals(allOf(fresh)));
+            for (int undone = 0; undone < 3; undone++) {
+                x.undo();
+                fresh.undo();
+            }
+            live(x);
+            live(fresh);
+            Check.yes("all alike " + k, allOf(x).equals(allOf(fresh)));
+        }
+        Check.tell(x, "lands 9");
+        x.text();
+        Check.yes("as at first", allOf(x).equals(allOf(new PermitOffice())));
+        Check.same("28 borders each time", 29, Check.tell(x, LANDS + "border 0 1;".repeat(28)));
+        Check.same("28 borders again", 29, Check.tell(x, LANDS + "border 0 1;".repeat(28)));
+    }
+
     private static void noTokens() {
         wrong("Lands 3 2;", 0, 1);
         wrong("\tlands 3 2;", 0, 1);
@@ -138,6 +203,9 @@ public final class TextTest {
         wrong("lands3 2;", 0, 1);
         wrong("lands 3a 2;", 6, 1);
         wrong("lands 3 2,", 9, 1);
+        wrong(LANDS + "lorry 0 1z;", 18, 1);
+        wrong(LANDS + "lorry 0 1a;", 18, 1);
+        wrong(LANDS + "lorry 0 z1;", 18, 1);
         wrong("lands 3 -2;", 8, 1);
         wrong("lands 3 2;\u0000", 10, 1);
         wrong("lands 3 2;\u00e9", 10, 1);
@@ -160,6 +228,9 @@ public final class TextTest {
         wrong(LANDS + "lands 3 2;", 10, 1);
         wrong(LANDS + "land 3 2;", 10, 1);
         wrong(LANDS + "borders 0 1;", 10, 1);
+        wrong(LANDS + "corder 0 1;", 10, 1);
+        wrong(LANDS + "tupe multi 1 1 1 1 1;", 10, 1);
+        wrong(LANDS + "lorrz 0 1;", 10, 1);
         wrong(LANDS + "border;", 16, 1);
         wrong(LANDS + "border 0;", 18, 1);
         wrong(LANDS + "border 0 1 2;", 21, 1);
