@@ -150,49 +150,45 @@ public final class TextTest {
         x.stop(1, 3);
     }
 
-    private static String allOf(PermitOffice x) {
-        StringBuilder all = new StringBuilder();
-        for (int k = 0; k <= 10; k++) {
-            all.append(x.now(k)).append(' ').append(x.plan(10 + k)).append(' ');
-        }
-        for (int one = 0; one < 7; one++) {
-            for (int what = 0; what < 16; what++) {
-                all.append(x.type(one, what)).append(' ').append(x.ledger(one, what)).append(' ');
-                all.append(x.trip(one, what)).append(' ');
-                all.append(Check.lorryThrows(x, one, what) ? -9 : x.lorry(one, what)).append(' ');
-            }
-        }
-        return all.toString();
-    }
-
     private static void textsBeginAnew() {
         String wide = "lands 4 1;border 0 1;border 1 2;border 2 3;border 3 0;type single 1 0 4 3 1 2;"
                 + "type shared 2 1 1 1 3 1;type multi 1 5 1 3 1 2;lorry 0 2;lorry 0 1;lorry 0 1;";
         String small = "lands 3 9;border 1 2;border 0 1;type single 1 1 4 9 1 2;lorry 0 2;lorry 0 2;lorry 0 1;";
-        PermitOffice x = new PermitOffice();
-        for (int k = 0; k < 6; k++) {
-            String text = k % 3 == 1 ? small : wide;
-            Check.tell(x, text);
-            PermitOffice fresh = Check.office(text);
-            Check.yes("all anew " + k, allOf(x).equals(allOf(fresh)));
-            for (int lorry = 0; lorry < 3; lorry++) {
-                x.ask(lorry, 10, 2);
-                fresh.ask(lorry, 10, 2);
+        for (String earlier : new String[] {wide, small}) {
+            for (String text : new String[] {wide, small}) {
+                beginAnew(earlier, text);
             }
-            Check.yes("first trips " + k, allOf(x).equals(allOf(fresh)));
-            for (int undone = 0; undone < 3; undone++) {
-                x.undo();
-                fresh.undo();
-            }
-            live(x);
-            live(fresh);
-            Check.yes("all alike " + k, allOf(x).equals(allOf(fresh)));
         }
+        PermitOffice x = Check.office(wide);
+        live(x);
         Check.tell(x, "lands 9");
         x.text();
-        Check.yes("as at first", allOf(x).equals(allOf(new PermitOffice())));
+        Check.yes("as at first", Sight.of(x).equals(Sight.of(new PermitOffice())));
         Check.same("28 borders each time", 29, Check.tell(x, LANDS + "border 0 1;".repeat(28)));
         Check.same("28 borders again", 29, Check.tell(x, LANDS + "border 0 1;".repeat(28)));
+    }
+
+    /** A TEXT behind two others is as if it were the first. */
+    private static void beginAnew(String earlier, String text) {
+        PermitOffice x = Check.office(earlier);
+        live(x);
+        Check.tell(x, earlier);
+        live(x);
+        Check.tell(x, text);
+        PermitOffice fresh = Check.office(text);
+        Check.yes("all anew", Sight.of(x).equals(Sight.of(fresh)));
+        for (int lorry = 0; lorry < 3; lorry++) {
+            x.ask(lorry, 10, 2);
+            fresh.ask(lorry, 10, 2);
+        }
+        Check.yes("first trips", Sight.of(x).equals(Sight.of(fresh)));
+        for (int undone = 0; undone < 3; undone++) {
+            x.undo();
+            fresh.undo();
+        }
+        live(x);
+        live(fresh);
+        Check.yes("all alike", Sight.of(x).equals(Sight.of(fresh)));
     }
 
     private static void noTokens() {

@@ -11,31 +11,6 @@ public final class UndoTest {
         Check.end("UndoTest");
     }
 
-    /** All that can be asked of an office, but what can be undone and the tape. */
-    private static String allOf(PermitOffice x) {
-        StringBuilder all = new StringBuilder();
-        for (int what = 0; what <= 8; what++) {
-            all.append(x.now(what)).append(' ');
-        }
-        for (int type = 0; type < 3; type++) {
-            for (int what = 0; what < 8; what++) {
-                all.append(x.type(type, what)).append(' ').append(x.ledger(type, what)).append(' ');
-            }
-        }
-        for (int lorry = 0; lorry < 4; lorry++) {
-            for (int what = 0; what < 5; what++) {
-                all.append(x.lorry(lorry, what)).append(' ');
-            }
-        }
-        for (int trip = 0; trip < 5; trip++) {
-            for (int what = 0; what < 16; what++) {
-                all.append(x.trip(trip, what)).append(' ');
-            }
-            all.append(x.plan(10 + trip)).append(' ');
-        }
-        return all.toString();
-    }
-
     private static void act(PermitOffice x, int number) {
         switch (number) {
             case 0 -> x.ask(0, 10, 2);
@@ -59,35 +34,39 @@ public final class UndoTest {
         }
     }
 
+    /** An office behind the first acts. */
+    private static PermitOffice behind(int acts) {
+        PermitOffice x = Check.office(TEXT);
+        for (int k = 0; k < acts; k++) {
+            act(x, k);
+        }
+        return x;
+    }
+
     private static void everyAct() {
         int acts = 18;
         for (int done = 1; done <= acts; done++) {
-            // The states on the way, each from an office of its own.
-            int back = Math.min(10, done);
-            PermitOffice x = Check.office(TEXT);
-            for (int k = 0; k < done; k++) {
-                act(x, k);
-            }
-            for (int k = 1; k <= back; k++) {
-                Check.same("undo " + k + " of " + done, back - k, x.undo());
-                PermitOffice y = Check.office(TEXT);
-                for (int n = 0; n < done - k; n++) {
-                    act(y, n);
+            int kept = Math.min(10, done);
+            for (int back = 1; back <= kept; back++) {
+                PermitOffice x = behind(done);
+                for (int k = 1; k <= back; k++) {
+                    Check.same("undo " + k + " of " + done, kept - k, x.undo());
                 }
-                Check.yes("all as ahead of act " + (done - k), allOf(x).equals(allOf(y)));
+                Check.yes("all as ahead of act " + (done - back),
+                        Sight.ofBooks(x).equals(Sight.ofBooks(behind(done - back))));
+            }
+            PermitOffice x = behind(done);
+            for (int k = 1; k <= kept; k++) {
+                x.undo();
             }
             Check.same("no more", -1, x.undo());
+            // And it can be done again.
+            PermitOffice again = behind(done);
+            again.undo();
+            act(again, done - 1);
+            Check.yes("again", Sight.ofBooks(again).equals(Sight.ofBooks(behind(done))));
         }
-        // And they can be done again.
-        PermitOffice x = Check.office(TEXT);
-        PermitOffice y = Check.office(TEXT);
-        for (int k = 0; k < acts; k++) {
-            act(x, k);
-            x.undo();
-            act(x, k);
-            act(y, k);
-            Check.yes("again", allOf(x).equals(allOf(y)));
-        }
+        PermitOffice x = behind(acts);
         Check.yes("a shared one, a late one were among them", x.lorry(2, 3) == 1 && x.trip(2, 6) == 1);
     }
 
