@@ -8,6 +8,7 @@ public final class PlanTest {
         leastCost();
         firstTripLeastType();
         longChains();
+        crossedChains();
         planOfNone();
         servedWithMoreOrLess();
         furtherOnes();
@@ -128,6 +129,18 @@ public final class PlanTest {
         for (int trip = 0; trip < 7; trip++) {
             Check.same("assigned type", trip == 5 ? -1 : trip < 5 ? trip : 5, x.trip(trip, 3));
         }
+    }
+
+    /** The least types need a chain that is found cheaper only behind all others. */
+    private static void crossedChains() {
+        PermitOffice x = Check.office("lands 4 1;border 0 1;border 0 2;border 0 3;type multi 1 1 2 1 1 2 3;"
+                + "type multi 1 1 1 1 3;type multi 2 0 1 1 3;type multi 1 1 1 1 3;type multi 1 1 2 1 1 3;"
+                + "type multi 1 0 1 1 1 3;lorry 0 2;lorry 0 2;lorry 0 2;lorry 0 2;lorry 0 1;lorry 0 1;");
+        int[] to = {3, 3, 3, 2, 1, 3};
+        for (int lorry = 0; lorry < to.length; lorry++) {
+            x.ask(lorry, 10 * to[lorry], 2);
+        }
+        plan(x, "crossed", 6, 4, 0, 1, 2, 0, 4, 5);
     }
 
     private static void planOfNone() {

@@ -478,6 +478,10 @@ public final class TermsEdgeTest {
         plan(waiting("type multi 1 0 1 1 1;type multi 6 3 1 1 1;type multi 1 4 1 1 1;", "lorry 0 6;lorry 0 1;"),
                 2, 3, 1, 0);
 
+        // The least COST there is, for the last type, against the first type for the first of eight TRIPS.
+        plan(waiting("type multi 1 1 9 1 1;".repeat(5) + "type multi 6 0 1 1 1;", "lorry 0 6;" + "lorry 0 1;".repeat(7)),
+                8, 7, 5, 0, 0, 0, 0, 0, 0, 0);
+
         sentence = "of these the one that gives the first TRIP (by numbers) the least type";
         plan(waiting("type multi 1 7 1 1 1;".repeat(6), "lorry 0 1;".repeat(8)), 6, 42, 0, 1, 2, 3, 4, 5, -1, -1);
         PermitOffice x = Check.office(PAIR + "type multi 1 7 1 1 1;type multi 1 7 1 1 1;lorry 0 1;lorry 0 1;");
