@@ -217,6 +217,10 @@ public final class PromiseEdgeTest {
         Check.yes("\"" + sentence + "\"", first.equals(Sight.of(x)));
         same("undo", -1, x.undo());
         x = lived();
+        Check.tell(cut(x), TEXT);
+        same("behind two texts", 0, x.text());
+        Check.yes("\"" + sentence + "\": behind two texts", first.equals(Sight.of(x)));
+        x = lived();
         same("blanks alone", 0, Check.tell(cut(x), " \n \n"));
         Check.yes("\"" + sentence + "\": blanks alone", first.equals(Sight.of(x)));
 

@@ -159,7 +159,10 @@ public final class TextTest {
                 beginAnew(earlier, text);
             }
         }
+        // Behind several texts, as an earlier one's numbers must not come back.
         PermitOffice x = Check.office(wide);
+        live(x);
+        Check.tell(x, small);
         live(x);
         Check.tell(x, "lands 9");
         x.text();
