@@ -170,6 +170,9 @@ public final class ModelTest {
     }
 
     private void breakOne(StringBuilder text) {
+        if (text.length() == 0) {
+            return;
+        }
         String signs = "09;az \n\t{`:/<=A\u0000\u00ff\u00e9";
         int at = below(text.length());
         switch (below(6)) {
